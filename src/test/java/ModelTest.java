@@ -179,8 +179,9 @@ public final class ModelTest {
                 same(run, call, "example(" + w + ")", () -> o.example(w), () -> m.example(w));
                 same(run, call, "textLength()", o::textLength, m.text::length); break; }
             case 42: { int[] f = m.fault();
-                same(run, call, "errorKind()", o::errorKind, () -> f[0]);
-                same(run, call, "errorPlace()", o::errorPlace, () -> f[1]); break; }
+                if (r.nextBoolean()) same(run, call, "errorKind()", o::errorKind, () -> f[0]);
+                else same(run, call, "errorPlace()", o::errorPlace, () -> f[1]);
+                break; }
             case 43: same(run, call, "run()", o::run, m::run); break;
             default:
                 same(run, call, "errors(" + t + ")", () -> o.errors(t), () -> m.errors(t));

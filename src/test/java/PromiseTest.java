@@ -115,6 +115,8 @@ public final class PromiseTest {
         due("5 3 1", () -> keysOf(o, 2));
         due(0, () -> o.mark(2));
         due(3, () -> o.fill(2, 999, 50, 0));
+        due(3, () -> o.fill(2, 999, -50, 0));
+        due(3, () -> o.fill(2, -999, 50, 0));
         due(4, () -> o.fill(2, 999, 50, 1));
         due(ARGUMENT, () -> o.fill(2, 999, 1, 2));
         due(ARGUMENT, () -> o.fill(2, -999, -1, 2));
@@ -630,8 +632,12 @@ public final class PromiseTest {
     }
 
     private static void fault(RunmergeOffice o, String text, int kind, int place) {
+        // Each of both answers must be about this text, whichever is asked for first.
         write(o, text);
         due(kind, o::errorKind);
+        write(o, "");
+        due(-1, o::errorPlace);
+        write(o, text);
         due(place, o::errorPlace);
         if (kind != 0) due(STATE, o::run);
     }
@@ -645,6 +651,12 @@ public final class PromiseTest {
         fault(o, ";", 1, 0);
         fault(o, "turn 0;;", 1, 7);
         fault(o, " sorted 0 into 1;", 1, 1);
+        fault(o, "sortz 0 into 1;", 1, 0);
+        fault(o, "asort 0 into 1;", 1, 0);
+        fault(o, "sort`0 into 1;", 1, 4);
+        fault(o, "sort 0/into 1;", 1, 6);
+        fault(o, "sort 0:into 1;", 1, 6);
+        fault(o, "sort {", 1, 5);
         fault(o, "sort", 1, 4);
         fault(o, "sort 0 into 1  ", 1, 15);
         fault(o, "sort into 1;", 1, 5);
