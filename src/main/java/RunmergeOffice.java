@@ -51,14 +51,13 @@ public final class RunmergeOffice {
     private final Tape[] copies = new Tape[TAPES];
     private final Tape joined = new Tape();
     private final Settings settings = new Settings();
-    private final RunMaker maker = new RunMaker(book);
+    private final RunMaker maker = new RunMaker();
     private final RunRow asked = new RunRow();
     private final Plan planned = new Plan();
-    private final Job standing = new Job(maker);
-    private final Job passing = new Job(maker);
-    private final Text text = new Text();
-    private final Reader reader = new Reader(text);
-    private final Checker checker = new Checker(book, maker, passing, planned);
+    private final Job standing = new Job();
+    private final Job passing = new Job();
+    private final Reader reader = new Reader();
+    private final Checker checker = new Checker();
     private boolean hasJob = false;
 
     public RunmergeOffice() {
@@ -211,7 +210,7 @@ public final class RunmergeOffice {
     // ---- runs and plans ----
 
     public int runs(int tape) throws IndexOutOfBoundsException {
-        maker.makeRuns(tapeOf(tape), settings, asked);
+        maker.makeRuns(book, tapeOf(tape), settings, asked);
         return asked.count;
     }
 
@@ -231,7 +230,7 @@ public final class RunmergeOffice {
     public int plan(int tape, int what) throws IndexOutOfBoundsException, IllegalArgumentException {
         Tape of = tapeOf(tape);
         demandRange(what, 0, 3);
-        maker.makeRuns(of, settings, asked);
+        maker.makeRuns(book, of, settings, asked);
         planned.tell(asked, settings);
         switch (what) {
             case 0: return planned.passes;
@@ -242,7 +241,7 @@ public final class RunmergeOffice {
     }
 
     public int leastMoves(int tape) throws IndexOutOfBoundsException {
-        maker.makeRuns(tapeOf(tape), settings, asked);
+        maker.makeRuns(book, tapeOf(tape), settings, asked);
         return planned.fewestMoves(asked);
     }
 
@@ -251,7 +250,7 @@ public final class RunmergeOffice {
     public int begin(int tape, int to) throws IndexOutOfBoundsException {
         Tape from = tapeOf(tape);
         Tape into = tapeOf(to);
-        int made = standing.start(from, to, settings);
+        int made = standing.start(book, from, to, settings);
         hasJob = true;
         if (standing.isOver()) {
             standing.writeTo(into);
@@ -298,7 +297,7 @@ public final class RunmergeOffice {
     public int sort(int tape, int to) throws IndexOutOfBoundsException {
         Tape from = tapeOf(tape);
         Tape into = tapeOf(to);
-        passing.doWhole(from, into, settings);
+        passing.doWhole(book, from, into, settings);
         return passing.moves;
     }
 
@@ -369,32 +368,32 @@ public final class RunmergeOffice {
         for (int shift = 56; shift >= 0; shift -= 8) {
             many += byteOf(bytes, shift) != 0 ? 1 : 0;
         }
-        if (text.size + many > MOST_TEXT) {
+        if (reader.text.size + many > MOST_TEXT) {
             throw new IllegalStateException("the text would be too long");
         }
         for (int shift = 56; shift >= 0; shift -= 8) {
             int one = byteOf(bytes, shift);
             if (one != 0) {
-                text.add(one);
+                reader.text.add(one);
             }
         }
-        return text.size;
+        return reader.text.size;
     }
 
     public int clearText() {
-        int before = text.size;
-        text.empty();
+        int before = reader.text.size;
+        reader.text.empty();
         return before;
     }
 
     public int textLength() {
-        return text.size;
+        return reader.text.size;
     }
 
     public int example(int which) throws IllegalArgumentException {
         demandRange(which, 0, 2);
-        text.replaceBy(which == 0 ? EXAMPLE_0 : which == 1 ? EXAMPLE_1 : EXAMPLE_2);
-        return text.size;
+        reader.text.replaceBy(which == 0 ? EXAMPLE_0 : which == 1 ? EXAMPLE_1 : EXAMPLE_2);
+        return reader.text.size;
     }
 
     public int errorKind() {
@@ -421,7 +420,7 @@ public final class RunmergeOffice {
     // ---- sums over tapes ----
 
     public int errors(int tape) throws IndexOutOfBoundsException {
-        return checker.countFailures(tapeOf(tape), settings);
+        return checker.countFailures(book, tapeOf(tape), settings);
     }
 
     public double meanKey(int tape) throws IndexOutOfBoundsException {
@@ -486,7 +485,7 @@ public final class RunmergeOffice {
     }
 
     private void askForRun(int tape, int run) {
-        maker.makeRuns(tapeOf(tape), settings, asked);
+        maker.makeRuns(book, tapeOf(tape), settings, asked);
         if (run < 0 || run >= asked.count) {
             throw new IndexOutOfBoundsException("there is no such run");
         }
@@ -556,7 +555,7 @@ public final class RunmergeOffice {
         Tape into = copies[third];
         switch (reader.action) {
             case SORTING:
-                passing.doWhole(from, into, reader.told);
+                passing.doWhole(book, from, into, reader.told);
                 return true;
             case COMBINING:
                 return join(from, copies[second], into, reader.how);
@@ -823,28 +822,23 @@ public final class RunmergeOffice {
 
     /** Makes runs of a tape. */
     private static final class RunMaker {
-        private final Book book;
         private final int[] memory = new int[MOST_MEMORY];
         private final int[] runOf = new int[MOST_MEMORY];
         private int held = 0;
 
-        RunMaker(Book book) {
-            this.book = book;
-        }
-
-        void makeRuns(Tape tape, Settings with, RunRow into) {
+        void makeRuns(Book book, Tape tape, Settings with, RunRow into) {
             into.empty();
             int room = Math.max(1, Math.min(with.memory, MOST_MEMORY));
             if (with.runWay == FULL) {
-                makeFull(tape, with.order, room, into);
+                makeFull(book, tape, with.order, room, into);
             } else if (with.runWay == REPLACEMENT) {
-                makeByReplacement(tape, with.order, room, into);
+                makeByReplacement(book, tape, with.order, room, into);
             } else {
-                makeNatural(tape, with.order, into);
+                makeNatural(book, tape, with.order, into);
             }
         }
 
-        private void makeFull(Tape tape, int order, int room, RunRow into) {
+        private void makeFull(Book book, Tape tape, int order, int room, RunRow into) {
             held = 0;
             for (int i = 0; i < tape.size; i++) {
                 holdInOrder(book.rankOf(tape.recordAt(i), order));
@@ -871,7 +865,7 @@ public final class RunmergeOffice {
             held++;
         }
 
-        private void makeByReplacement(Tape tape, int order, int room, RunRow into) {
+        private void makeByReplacement(Book book, Tape tape, int order, int room, RunRow into) {
             held = 0;
             int next = 0;
             while (next < tape.size && next < room) {
@@ -931,7 +925,7 @@ public final class RunmergeOffice {
             return least;
         }
 
-        private void makeNatural(Tape tape, int order, RunRow into) {
+        private void makeNatural(Book book, Tape tape, int order, RunRow into) {
             int latest = 0;
             for (int i = 0; i < tape.size; i++) {
                 int rank = book.rankOf(tape.recordAt(i), order);
@@ -1161,7 +1155,7 @@ public final class RunmergeOffice {
 
     /** Sorts a tape merge by merge. */
     private static final class Job {
-        private final RunMaker maker;
+        private final RunMaker maker = new RunMaker();
         private final Pass pass = new Pass();
         private final int[] inputs = new int[MOST_WAYS];
         private final int[] places = new int[MOST_WAYS];
@@ -1178,13 +1172,9 @@ public final class RunmergeOffice {
         private int lostMoves = 0;
         private int timesTorn = 0;
 
-        Job(RunMaker maker) {
-            this.maker = maker;
-        }
-
         /** Returns the number of runs, empty ones left out. */
-        int start(Tape tape, int to, Settings with) {
-            maker.makeRuns(tape, with, now);
+        int start(Book book, Tape tape, int to, Settings with) {
+            maker.makeRuns(book, tape, with, now);
             int runs = now.count;
             int all = pass.arrange(with, runs);
             for (int i = runs; i < all; i++) {
@@ -1309,8 +1299,8 @@ public final class RunmergeOffice {
             return left;
         }
 
-        void doWhole(Tape from, Tape into, Settings with) {
-            start(from, 0, with);
+        void doWhole(Book book, Tape from, Tape into, Settings with) {
+            start(book, from, 0, with);
             // Each merge leaves at least one run less.
             for (int i = 0; i < MOST_RUNS && !isOver(); i++) {
                 doMerge();
@@ -1364,7 +1354,7 @@ public final class RunmergeOffice {
         private static final int OTHER = 4;
         private static final int TOO_GREAT = 1000;
 
-        private final Text text;
+        private final Text text = new Text();
         private final int[] operands = new int[3];
         private final Settings told = new Settings();
         private int wordKind = END;
@@ -1377,10 +1367,6 @@ public final class RunmergeOffice {
         private boolean isLast = false;
         private int faultKind = 0;
         private int faultPlace = NONE;
-
-        Reader(Text text) {
-            this.text = text;
-        }
 
         void restart() {
             wordEnd = 0;
@@ -1571,35 +1557,27 @@ public final class RunmergeOffice {
 
     /** Sorts a tape in all ways and counts what does not come out as the theorem says. */
     private static final class Checker {
-        private final Book book;
-        private final RunMaker maker;
-        private final Job trial;
-        private final Plan told;
+        private final RunMaker maker = new RunMaker();
+        private final Job trial = new Job();
+        private final Plan told = new Plan();
         private final Settings with = new Settings();
         private final RunRow runRow = new RunRow();
         private final Tape out = new Tape();
         private final int[] times = new int[MOST_RECORDS];
         private int failures = 0;
 
-        Checker(Book book, RunMaker maker, Job trial, Plan told) {
-            this.book = book;
-            this.maker = maker;
-            this.trial = trial;
-            this.told = told;
-        }
-
-        int countFailures(Tape tape, Settings office) {
+        int countFailures(Book book, Tape tape, Settings office) {
             failures = 0;
             with.takeOver(office);
             for (int runWay = FULL; runWay <= NATURAL; runWay++) {
                 with.runWay = runWay;
-                maker.makeRuns(tape, with, runRow);
+                maker.makeRuns(book, tape, with, runRow);
                 if (runWay == REPLACEMENT) {
-                    checkReplacement(tape);
+                    checkReplacement(book, tape);
                 }
                 for (int mergeWay = BALANCED; mergeWay <= POLYPHASE; mergeWay++) {
                     with.mergeWay = mergeWay;
-                    checkSort(tape);
+                    checkSort(book, tape);
                 }
             }
             return failures;
@@ -1610,15 +1588,15 @@ public final class RunmergeOffice {
         }
 
         /** Each run but the last one fills the memory at least, and a tape in order is one run. */
-        private void checkReplacement(Tape tape) {
+        private void checkReplacement(Book book, Tape tape) {
             for (int run = 0; run + 1 < runRow.count; run++) {
                 demand(runRow.lengthOf(run) >= with.memory);
             }
             demand(runRow.count <= 1 || !tape.isInOrder(book, with.order));
         }
 
-        private void checkSort(Tape tape) {
-            trial.doWhole(tape, out, with);
+        private void checkSort(Book book, Tape tape) {
+            trial.doWhole(book, tape, out, with);
             demand(out.isInOrder(book, with.order));
             demand(hasSameRecords(tape));
             told.tell(runRow, with);
