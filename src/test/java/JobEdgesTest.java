@@ -202,6 +202,8 @@ public final class JobEdgesTest extends Edges {
             o.work(1);
             due(4, () -> o.begin(0, 2));
             due("2 0 4 0 0 4 0 0", () -> jobOf(o));
+            due(0, o::tear);
+            due("2 0 4 0 0 4 0 1", () -> jobOf(o));
             due(3, () -> o.work(200));
             due(0, () -> o.length(1));
             due("3 2 1 0", () -> row(o, 2));

@@ -206,9 +206,15 @@ public final class ProgramEdgesTest extends Edges {
             right("unite 0 1into 2;");
             right("sort0into1down;");
             right("sort0into1full50poly6up;clear7;");
-            fault("turnx 0;", 1, 0);
+            fault("turna 0;", 1, 0);
+            fault("turnz 0;", 1, 0);
+            fault("aturn 0;", 1, 0);
+            fault("zturn 0;", 1, 0);
             fault("turnturn 0;", 1, 0);
             fault("tur 0;", 1, 0);
+            fault("urn 0;", 1, 0);
+            fault("turn 09;", 2, 5);
+            fault("turn 90;", 2, 5);
             fault("common 01 into 2;", 1, 10);
             fault("turn 00000008;", 2, 5);
             fault("turn 10;", 2, 5);
@@ -391,6 +397,21 @@ public final class ProgramEdgesTest extends Edges {
             fault("tUrn 0;", 1, 0);
             fault("turn zero;", 1, 5);
             fault("turn  ;", 1, 6);
+        });
+        test("a word or sign that cannot stand there", () -> {
+            // Each word with one letter wrong is no word of the language.
+            String[] texts = {"sort 0 into 1 up;", "sort 0 into 1 down;", "sort 0 into 1 full 3;", "sort 0 into 1 replace 3;",
+                "sort 0 into 1 natural;", "sort 0 into 1 balanced 3;", "sort 0 into 1 shortest;", "sort 0 into 1 poly 3;",
+                "unite 3 4 into 5;", "common 3 4 into 5;", "without 3 4 into 5;", "copy 0 into 1;", "first 0;", "last 0;",
+                "turn 0;", "clear 0;"};
+            for (String text : texts) {
+                right(text);
+                for (int i = 0; i < text.length(); i++) {
+                    if (Character.isLetter(text.charAt(i))) {
+                        fault(text.substring(0, i) + "q" + text.substring(i + 1), 1, text.lastIndexOf(' ', i) + 1);
+                    }
+                }
+            }
         });
     }
 

@@ -257,9 +257,11 @@ public final class TapeEdgesTest extends Edges {
             due("3", () -> row(o, 1));
             for (int i = 0; i < 3; i++) o.fill(4 + i, 0, 0, 50);
             o.fill(7, 0, 0, 44);
-            due(199, () -> o.put(7, 0, 0));
+            due(199, () -> o.put(7, 8, 9));
+            due("8 9", () -> o.key(199) + " " + o.mark(199));
             due(200, o::records);
             refused(STATE, o, () -> o.put(7, 0, 0));
+            due("8 9", () -> o.key(199) + " " + o.mark(199));
             refused(STATE, o, () -> o.fill(2, 0, 0, 1));
             refused(STATE, o, () -> o.scatter(2, 1, 1, 0));
         });
